@@ -1,0 +1,103 @@
+import java.lang.reflect.Constructor;
+import java.lang.reflect.Field;
+import java.lang.reflect.Method;
+import java.lang.reflect.Modifier;
+import java.util.Set;
+import java.util.TreeSet;
+
+/** The face is the document's, with its throws clauses, and nothing else is to be seen. */
+public final class FaceTest {
+  private static final String I = "IndexOutOfBoundsException ";
+  private static final String A = "IllegalArgumentException ";
+  private static final String S = "IllegalStateException ";
+
+  private static final String[] METHODS = {
+    "int set(int int) " + I + A,
+    "int setSpeed(int int) " + I + A,
+    "int pour(int int int int) " + I + A + S,
+    "int stir(int int int) " + I + A,
+    "int draw(int int int) " + I + A,
+    "int decant(int int int) " + I + A + S,
+    "int turn(int) " + I,
+    "int settle(int) " + A + S,
+    "int append(int) " + A + S,
+    "int clearBuffer() ",
+    "int firstError() ",
+    "int load(int) " + I + A + S,
+    "int undo() " + S,
+    "int slice(int int int) " + I + A,
+    "int jar(int int) " + I + A,
+    "int grains(int int) " + I + A,
+    "int count(int) " + A,
+    "int setting(int) " + I,
+    "int why(int int int) " + I,
+    "int ifSettled(int int int) " + I + A,
+    "int clearIn(int int) " + I + A,
+    "int restIn(int) " + I,
+    "int purest(int int) " + I,
+    "double meanDepth(int) " + I,
+    "long digest() ",
+  };
+
+  public static void main(String[] args) {
+    Class<?> face = SettlingJars.class;
+    Check.holds("the class is public and final",
+        Modifier.isPublic(face.getModifiers()) && Modifier.isFinal(face.getModifiers()));
+    methodsAreTheDocuments(face);
+    constructorsAreTheDocuments(face);
+    fieldsAreTheDocuments(face);
+    Check.end("FaceTest");
+  }
+
+  private static void methodsAreTheDocuments(Class<?> face) {
+    Set<String> due = new TreeSet<>(Set.of(METHODS));
+    Set<String> found = new TreeSet<>();
+    Set<String> publicNames = new TreeSet<>();
+    for (Method method : face.getDeclaredMethods()) {
+      if (!Modifier.isPrivate(method.getModifiers())) {
+        found.add(written(method));
+        publicNames.add(method.getName());
+      }
+    }
+    Check.holds("the methods are " + found + ", due are " + due, found.equals(due));
+    for (Method method : face.getDeclaredMethods()) {
+      Check.holds("the private method " + method.getName() + " bears a public name",
+          !Modifier.isPrivate(method.getModifiers()) || !publicNames.contains(method.getName()));
+    }
+  }
+
+  private static String written(Method method) {
+    StringBuilder text = new StringBuilder();
+    text.append(method.getReturnType().getSimpleName()).append(' ').append(method.getName());
+    text.append('(').append(names(method.getParameterTypes()).trim()).append(") ");
+    text.append(names(method.getExceptionTypes()));
+    return text.toString();
+  }
+
+  private static String names(Class<?>[] types) {
+    StringBuilder text = new StringBuilder();
+    for (Class<?> type : types) {
+      text.append(type.getSimpleName()).append(' ');
+    }
+    return text.toString();
+  }
+
+  private static void constructorsAreTheDocuments(Class<?> face) {
+    Constructor<?>[] found = face.getDeclaredConstructors();
+    Check.holds("there is one public constructor, without parameters",
+        found.length == 1 && Modifier.isPublic(found[0].getModifiers())
+            && found[0].getParameterCount() == 0);
+  }
+
+  private static void fieldsAreTheDocuments(Class<?> face) {
+    for (Field field : face.getDeclaredFields()) {
+      int modifiers = field.getModifiers();
+      boolean isNone = field.getName().equals("NONE");
+      Check.holds("the field " + field.getName() + " is to be seen where it should not",
+          isNone == Modifier.isPublic(modifiers) && isNone != Modifier.isPrivate(modifiers));
+      Check.holds("the static field " + field.getName() + " is not final",
+          !Modifier.isStatic(modifiers) || Modifier.isFinal(modifiers));
+    }
+    Check.same("NONE", -1, SettlingJars.NONE);
+  }
+}
