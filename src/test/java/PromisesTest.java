@@ -285,6 +285,10 @@ public final class PromisesTest {
     Check.same("8: slice 9 to 2", 300, x.slice(0, 2, 3));
     Check.same("8: nothing else", 949, x.jar(0, 0));
     Check.same("8: nothing stays above", 0, x.slice(0, 0, 4));
+    x.pour(0, 0, 0, 200);
+    Check.same("8: packed at the top and at the bottom", 4, x.turn(0));
+    x.undo();
+    x.undo();
     Check.same("8: an empty jar", 0, x.turn(1));
     Check.same("8: the other jar", 949, x.jar(0, 0));
     x.undo();
@@ -331,6 +335,23 @@ public final class PromisesTest {
     Check.same("9: class 0 fell", 2, x.slice(0, 11, 0));
     Check.same("9: class 1 did not", 0, x.slice(0, 11, 1));
     Check.same("9: a full bottom", 0, x.settle(100));
+
+    SettlingJars one = new SettlingJars();
+    one.pour(0, 0, 0, 1);
+    Check.same("9: one grain, slice by slice", 11, one.settle(100));
+    Check.same("9: all steps have passed", 100, one.count(0));
+    one.draw(0, 11, 100);
+    one.set(0, 0);
+    one.setSpeed(2, 100);
+    one.pour(0, 4, 2, 199);
+    one.setSpeed(2, 99);
+    Check.same("9: how many fall is truncated", 197, one.settle(1));
+    one.set(0, 1);
+    one.setSpeed(1, 91);
+    one.pour(1, 0, 1, 11);
+    one.draw(0, 4, 100);
+    one.draw(0, 5, 100);
+    Check.same("9: 9.99999 are nine", 9, one.settle(1));
 
     SettlingJars y = new SettlingJars();
     y.set(3, 9);
@@ -456,13 +477,17 @@ public final class PromisesTest {
     Check.same("13: undone", 580, x.jar(1, 0));
     Check.same("13: undone in the account", 308, x.grains(0, 0));
     String[] bad = {"", "1", "12", "123", "1a@", "1a+", "1a@3+", "1a@3+4", "1x", "0a", "1a@12",
-        "1a1a", "1a!", "!1a", "1a@1a"};
+        "1a1a", "1a!", "!1a", "1a@1a", "!x1a", "1a!!1b", "1a@12+3b", "01a"};
     for (String text : bad) {
       type(x, text);
       Check.refusesArgument("13: " + text, x, () -> x.load(0));
       Check.refusesIndex("13: jar 3, " + text, x, () -> x.load(3));
       Check.same("13: the buffer is kept", text.length(), x.clearBuffer());
     }
+    x.restIn(1);
+    x.ifSettled(1, 3, 0);
+    Check.same("13: nothing comes from a look ahead", 1, loadInto(x, 0, "1d@7"));
+    Check.same("13: just one grain", 1, x.slice(0, 7, 3));
     type(x, "1a");
     Check.refusesIndex("13: jar -1", x, () -> x.load(-1));
     Check.refusesIndex("13: jar 3", x, () -> x.load(3));
@@ -595,6 +620,8 @@ public final class PromisesTest {
     x.set(2, 50);
     x.pour(1, 0, 0, 10);
     Check.same("15: packed and clear at once", 2, x.slice(1, 0, 5) + x.slice(1, 0, 6));
+    x.pour(0, 6, 2, 1);
+    Check.same("15: a single grain leads", 2, x.slice(0, 6, 7));
     Check.refusesArgument("15: what -1", x, () -> x.slice(0, 0, -1));
     Check.refusesArgument("15: what 10", x, () -> x.slice(0, 0, 10));
     Check.refusesIndex("15: jar -1", x, () -> x.slice(-1, 0, 0));
@@ -621,6 +648,9 @@ public final class PromisesTest {
     for (int what = 0; what < 10; what++) {
       Check.same("16: an empty jar, " + what, empty[what], x.jar(1, what));
     }
+    x.pour(0, 0, 2, 1);
+    Check.same("16: the top slice changes too", 5, x.jar(0, 8));
+    x.undo();
     x.stir(0, 0, 11);
     x.set(1, 10);
     Check.same("16: all slices in the bed", 12, x.jar(0, 5));
@@ -656,7 +686,8 @@ public final class PromisesTest {
     x.pour(2, 11, 2, 60);
     x.draw(0, 0, 25);
     x.decant(0, 1, 0);
-    int[] due = {160, 25, 135, 10};
+    x.pour(0, 5, 2, 7);
+    int[] due = {167, 25, 142, 10};
     for (int what = 0; what < 4; what++) {
       Check.same("17: account " + what, due[what], x.grains(2, what));
     }
@@ -678,6 +709,12 @@ public final class PromisesTest {
     for (int what = 0; what < 6; what++) {
       Check.same("18: count " + what, due[what], x.count(what));
     }
+    x.pour(0, 0, 3, 120);
+    x.pour(0, 11, 3, 200);
+    x.pour(2, 0, 3, 200);
+    x.pour(2, 11, 3, 200);
+    Check.same("18: packed slices of all jars", 5, x.count(2));
+    Check.same("18: clear slices of all jars", 28, x.count(3));
     Check.refusesArgument("18: what -1", x, () -> x.count(-1));
     Check.refusesArgument("18: what 6", x, () -> x.count(6));
   }
