@@ -317,16 +317,17 @@ public final class SettlingJars {
 
   private long hashWithJar(long before, int jar) {
     long hash = before;
+    Jar seen = now.jars[jar];
     for (int what = 0; what < JAR_PROPERTIES; what++) {
-      hash = 31 * hash + jar(jar, what);
+      hash = 31 * hash + seen.property(what, now.settings);
     }
     for (int slice = 0; slice < SLICES; slice++) {
       for (int what = 0; what < SLICE_PROPERTIES; what++) {
-        hash = 31 * hash + slice(jar, slice, what);
+        hash = 31 * hash + seen.sliceProperty(slice, what, now.settings);
       }
     }
     for (int grain = 0; grain < CLASSES; grain++) {
-      hash = 31 * hash + purest(jar, grain);
+      hash = 31 * hash + seen.purestSlice(grain);
     }
     hash = 31 * hash + clearIn(jar, 3);
     hash = 31 * hash + restIn(jar);
