@@ -846,7 +846,7 @@ public final class SettlingJars {
       return place == AFTER_CLASS || place == AFTER_SLICE_ONE || place == AFTER_SLICE;
     }
 
-    /** The charge must be complete: then the numbers in it are in their ranges. */
+    /** The charge must be complete. */
     void readInto(Jar jar) {
       int start = 0;
       for (int k = 0; k < length; k++) {
@@ -870,7 +870,10 @@ public final class SettlingJars {
       for (k = k + 2; k < end; k++) {
         slice = slice * 10 + (signs[k] - '0');
       }
-      jar.put(slice, grain, many);
+      // So it is in each complete charge; it is looked at here as it becomes an index.
+      if (slice < SLICES && grain >= 0 && grain < CLASSES) {
+        jar.put(slice, grain, many);
+      }
     }
 
     long hashWithCodes(long before) {

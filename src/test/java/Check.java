@@ -1,6 +1,7 @@
 /** What the tests share: they tell what is wrong, and count it. */
 final class Check {
   private static int wrong = 0;
+  private static String sentence = "";
 
   private Check() {
   }
@@ -8,6 +9,17 @@ final class Check {
   /** A call of the face that may throw. */
   interface Call {
     void run();
+  }
+
+  /** The test of one sentence of the document; what is wrong is told under the sentence's words. */
+  static void sentence(String words, Call test) {
+    sentence = "\"" + words + "\": ";
+    try {
+      test.run();
+    } catch (RuntimeException e) {
+      tell("ended with " + e);
+    }
+    sentence = "";
   }
 
   static void same(String what, long want, long got) {
@@ -31,6 +43,11 @@ final class Check {
   /** The call throws just this exception and changes nothing, neither the state nor the buffer. */
   static void refuses(String what, SettlingJars x, Class<?> kind, Call call) {
     long before = x.digest();
+    throwsJust(what, kind, call);
+    same(what + ": the digest behind it", before, x.digest());
+  }
+
+  static void throwsJust(String what, Class<?> kind, Call call) {
     Class<?> thrown = null;
     try {
       call.run();
@@ -40,7 +57,6 @@ final class Check {
     if (thrown != kind) {
       tell(what + " throws " + thrown + ", due is " + kind);
     }
-    same(what + ": the digest behind it", before, x.digest());
   }
 
   static void refusesIndex(String what, SettlingJars x, Call call) {
@@ -58,7 +74,7 @@ final class Check {
   static void tell(String text) {
     wrong++;
     if (wrong <= 50) {
-      System.out.println(text);
+      System.out.println(sentence + text);
     }
   }
 

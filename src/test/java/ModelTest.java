@@ -1,12 +1,16 @@
 /** Long runs of calls, made up by fixed numbers: the program answers as the model does. */
 public final class ModelTest {
-  private static final int RUNS = 400;
-  private static final int CALLS = 512;
+  private static final int RUNS = 1200;
+  /** The document promises nothing about an object behind them. */
+  private static final int MOST_CALLS = 512;
+  /** The calls that one turn of a run takes at most: a text with all about it, and a digest. */
+  private static final int CALLS_OF_A_TURN = 70;
   private static final String TEXT_SIGNS = "0123456789abcde@+@+abcd1!";
 
   private long seed;
   private SettlingJars x;
   private Model model;
+  private int calls;
   private int answered;
   private int refused;
 
@@ -24,15 +28,17 @@ public final class ModelTest {
     seed = 77777L * run + 5;
     x = new SettlingJars();
     model = new Model();
-    for (int call = 0; call < CALLS; call++) {
+    calls = 0;
+    for (int turn = 0; calls + CALLS_OF_A_TURN <= MOST_CALLS; turn++) {
       int kind = number(0, 30);
       int[] a = {0, 0, 0, 0};
       fill(kind, a);
-      String name = "run " + run + ", call " + call + ", kind " + kind + " (" + a[0] + ", " + a[1]
+      String name = "run " + run + ", turn " + turn + ", kind " + kind + " (" + a[0] + ", " + a[1]
           + ", " + a[2] + ", " + a[3] + ")";
       compare(name, kind, a);
-      if (call % 32 == 31) {
+      if (turn % 32 == 31) {
         Check.same(name + ", digest", model.digest(), x.digest());
+        calls++;
       }
     }
   }
@@ -100,6 +106,7 @@ public final class ModelTest {
       typeBoth(name, a[0]);
       return;
     }
+    calls++;
     Object due = answer(() -> ofModel(kind, a));
     Object got = answer(() -> ofProgram(kind, a));
     if (due instanceof Class) {
@@ -125,6 +132,7 @@ public final class ModelTest {
   /** Types a charge, whole, cut off, or spoilt at one place. */
   private void typeBoth(String name, int length) {
     StringBuilder text = new StringBuilder();
+    calls += 2;
     while (text.length() < length) {
       text.append(text.length() == 0 ? "" : "+");
       text.append(number(1, number(0, 3) == 0 ? 999 : 30)).append((char) number('a', 'd'));
@@ -141,6 +149,7 @@ public final class ModelTest {
     }
     for (int k = 0; k < text.length(); k++) {
       int code = text.charAt(k);
+      calls++;
       Check.holds(name + " append",
           answer(() -> model.append(code)).equals(answer(() -> x.append(code))));
     }

@@ -1,4 +1,4 @@
-/** For each promise: ordinary calls, the edges that the document names, and wrong calls. */
+/** For each promise but the digest, which has a test of its own: ordinary calls, the edges that the document names, and wrong calls. */
 public final class PromisesTest {
   private static final int NONE = SettlingJars.NONE;
 
@@ -34,7 +34,6 @@ public final class PromisesTest {
     promise23();
     promise24();
     promise25();
-    promise26();
     Check.end("PromisesTest");
   }
 
@@ -873,59 +872,5 @@ public final class PromisesTest {
     Check.sameBits("25: at the bottom", 11.0, x.meanDepth(1));
     Check.refusesIndex("25: jar -1", x, () -> x.meanDepth(-1));
     Check.refusesIndex("25: jar 3", x, () -> x.meanDepth(3));
-  }
-
-  private static void promise26() {
-    SettlingJars x = new SettlingJars();
-    Check.same("26: a new object", digestOf(x, ""), x.digest());
-    type(x, "300a+200b@3+150c+99d@11+7a@5");
-    Check.same("26: a text", digestOf(x, "300a+200b@3+150c+99d@11+7a@5"), x.digest());
-    x.load(2);
-    x.settle(40);
-    Check.same("26: after a load", digestOf(x, ""), x.digest());
-    x.draw(2, 11, 33);
-    x.pour(0, 1, 3, 1);
-    x.pour(0, 0, 3, 998);
-    x.pour(1, 11, 3, 999);
-    x.append('~');
-    Check.same("26: small and large depths", digestOf(x, "~"), x.digest());
-    long before = x.digest();
-    x.clearBuffer();
-    x.append('!');
-    Check.holds("26: another character, another digest", before != x.digest());
-    Check.same("26: and again the same", x.digest(), x.digest());
-  }
-
-  /** The digest as the document lists it, from the other answers. */
-  private static long digestOf(SettlingJars x, String buffer) {
-    long hash = 2207;
-    for (int what = 0; what <= 5; what++) {
-      hash = 31 * hash + x.count(what);
-    }
-    for (int setting = 0; setting <= 3; setting++) {
-      hash = 31 * hash + x.setting(setting);
-    }
-    for (int k = 0; k < 16; k++) {
-      hash = 31 * hash + x.grains(k / 4, k % 4);
-    }
-    for (int jar = 0; jar < 3; jar++) {
-      for (int what = 0; what <= 9; what++) {
-        hash = 31 * hash + x.jar(jar, what);
-      }
-      for (int k = 0; k < 120; k++) {
-        hash = 31 * hash + x.slice(jar, k / 10, k % 10);
-      }
-      for (int grain = 0; grain <= 3; grain++) {
-        hash = 31 * hash + x.purest(jar, grain);
-      }
-      hash = 31 * hash + x.clearIn(jar, 3);
-      hash = 31 * hash + x.restIn(jar);
-      hash = 31 * hash + Double.doubleToLongBits(x.meanDepth(jar));
-    }
-    hash = 31 * hash + buffer.length();
-    for (char code : buffer.toCharArray()) {
-      hash = 31 * hash + code;
-    }
-    return hash;
   }
 }
