@@ -1,3 +1,5 @@
+import java.util.Arrays;
+
 /** The boundary cases of what is asked, promises 15 to 25: a test for each sentence. */
 public final class AnswersTest {
   private static final int NONE = SettlingJars.NONE;
@@ -6,6 +8,9 @@ public final class AnswersTest {
     slices();
     jars();
     numbers();
+    Check.sentence("4: grains that fell so far (each fall is counted)",
+        AnswersTest::onlySettleCounts);
+    settings();
     reasons();
     lookingAhead();
     samples();
@@ -95,7 +100,10 @@ public final class AnswersTest {
     });
     Check.sentence("8: how often the leading class changes from one slice with grains to the next "
         + "lower slice with grains", AnswersTest::changes);
-    Check.sentence("9: 1 if nothing would fall in the next step, else 0", AnswersTest::rest);
+    Check.sentence("9: 1 if nothing would fall in the next step, else 0", () -> {
+      rest();
+      restByTheFactor();
+    });
   }
 
   private static void isLayered(SettlingJars x, int bed, int clear, int inBed) {
@@ -150,6 +158,39 @@ public final class AnswersTest {
     Check.same("it makes room up to the top", 11, y.settle(1));
   }
 
+  /** Two grains of class 0 fall where they are among up to 10 in their own slice. */
+  private static void restByTheFactor() {
+    SettlingJars x = Make.slow();
+    x.set(3, 9);
+    x.setSpeed(0, 100);
+    for (int slice = 0; slice < 10; slice++) {
+      x.pour(0, slice, 1, 9);
+      x.pour(0, slice, 2, 9);
+    }
+    Check.same("no more than the residue in each slice", 1, x.jar(0, 9));
+    x.pour(0, 10, 0, 2);
+    x.pour(0, 10, 3, 8);
+    Check.same("they want to fall among 10", 0, x.jar(0, 9));
+    Check.same("so says why", 0, x.why(0, 10, 0));
+    x.pour(0, 10, 1, 1);
+    Check.same("but not among 11", 1, x.jar(0, 9));
+    Check.same("and so says why", 4, x.why(0, 10, 0));
+    Check.same("none falls", 0, x.settle(1));
+    x.undo();
+    x.undo();
+    x.pour(0, 11, 3, 900);
+    Check.same("those below do not count", 0, x.jar(0, 9));
+    Check.same("nor for why", 0, x.why(0, 10, 0));
+    Check.same("one falls", 1, x.settle(1));
+    SettlingJars y = Make.slow();
+    y.set(3, 9);
+    y.setSpeed(0, 100);
+    y.pour(0, 5, 0, 2);
+    y.pour(0, 5, 3, 9);
+    Check.same("no grains in the other slices", 1, y.jar(0, 9));
+    Check.same("none for why", 4, y.why(0, 5, 0));
+  }
+
   private static void numbers() {
     Check.sentence("0: poured; 1: drawn off; 2: in all jars; 3: its speed", () -> {
       SettlingJars x = new SettlingJars();
@@ -179,6 +220,37 @@ public final class AnswersTest {
     });
   }
 
+  /** No other call than settle is a step, or a fall. */
+  private static void onlySettleCounts() {
+    for (int k = 0; k < 9; k++) {
+      SettlingJars x = Make.busy();
+      int steps = x.count(0);
+      int fallen = x.count(4);
+      Make.deeds(x)[k].run();
+      Check.same("steps behind call " + k, k == 7 ? steps + 2 : steps, x.count(0));
+      Check.holds("falls behind call " + k, k == 7 == (x.count(4) != fallen));
+    }
+    SettlingJars x = Make.busy();
+    int fallen = x.count(4);
+    int fell = x.settle(2);
+    Check.same("falls behind two steps", fallen + fell, x.count(4));
+  }
+
+  private static void settings() {
+    Check.sentence("Returns a setting.", () -> {
+      int[] first = {100, 200, 3, 0};
+      int[] then = {7, 17, 27, 8};
+      for (int k = 0; k < 4; k++) {
+        SettlingJars x = new SettlingJars();
+        Check.same("at first", first[k], x.setting(k));
+        x.set(k, then[k]);
+        Check.same("then", then[k], x.setting(k));
+        x.undo();
+        Check.same("undone", first[k], x.setting(k));
+      }
+    });
+  }
+
   private static void isAccount(SettlingJars x, int grain, int[] due) {
     for (int what = 0; what < due.length; what++) {
       Check.same("account " + what + " of " + grain, due[what], x.grains(grain, what));
@@ -192,6 +264,20 @@ public final class AnswersTest {
   }
 
   private static void reasons() {
+    Check.sentence("Tells why no grain of a class would fall from a slice", () -> {
+      SettlingJars x = new SettlingJars();
+      x.set(3, 1);
+      x.pour(0, 5, 2, 1);
+      x.pour(1, 5, 2, 2);
+      Check.same("jar 0", 4, x.why(0, 5, 2));
+      Check.same("jar 1", 0, x.why(1, 5, 2));
+      Check.same("jar 2", 2, x.why(2, 5, 2));
+      x.pour(2, 5, 2, 2);
+      x.pour(2, 6, 0, 200);
+      Check.same("jar 2, on a full slice", 3, x.why(2, 5, 2));
+      Check.same("another slice", 0, x.why(2, 6, 0));
+      Check.same("another class", 2, x.why(2, 5, 0));
+    });
     Check.sentence("Returns 0 if at least one grain would fall", () -> {
       SettlingJars x = new SettlingJars();
       x.pour(0, 10, 3, 1);
@@ -210,6 +296,7 @@ public final class AnswersTest {
       Check.same("class 0 has not fallen yet", 0, x.why(0, 10, 1));
       Check.same("slice 10 is as it is", 3, x.why(0, 9, 2));
     });
+    Check.sentence("otherwise the first of these that holds", AnswersTest::firstReason);
     Check.sentence("1: it is the bottom slice;", () -> {
       SettlingJars x = new SettlingJars();
       Check.same("before no grains", 1, x.why(0, 11, 0));
@@ -246,7 +333,32 @@ public final class AnswersTest {
     });
   }
 
+  private static void firstReason() {
+    SettlingJars x = new SettlingJars();
+    x.set(1, 10);
+    x.set(3, 9);
+    x.pour(0, 11, 0, 10);
+    x.pour(0, 10, 1, 9);
+    x.pour(0, 9, 1, 5);
+    x.setSpeed(1, 1);
+    Check.same("the bottom, which has no such grains", 1, x.why(0, 11, 3));
+    Check.same("no such grains, and no room below", 2, x.why(0, 10, 3));
+    Check.same("no room below, and none wants to fall", 3, x.why(0, 10, 1));
+    Check.same("room below, but none wants to fall", 4, x.why(0, 9, 1));
+  }
+
   private static void lookingAhead() {
+    Check.sentence("Tells what would be after some steps.", () -> {
+      for (int steps = 1; steps <= 100; steps = steps * 2 + steps % 3) {
+        SettlingJars x = Make.busy();
+        SettlingJars y = Make.busy();
+        y.settle(steps);
+        for (int k = 0; k < 27; k++) {
+          Check.same("property " + k % 9 + " of jar " + k / 9 + " after " + steps,
+              y.jar(k / 9, k % 9), x.ifSettled(k / 9, steps, k % 9));
+        }
+      }
+    });
     Check.sentence("`steps`: 1 to 100 (the limit of 10000 steps does not matter for this and the "
         + "following questions)", AnswersTest::noLimitAhead);
     Check.sentence("`what`: 0 to 8, as in the method jar", () -> {
@@ -274,16 +386,52 @@ public final class AnswersTest {
     Check.sentence("Returns the least number of steps, 0 to 600, behind which nothing would fall in "
         + "the next step; NONE if there is none.", AnswersTest::restWithin600);
     Check.sentence("what would be; nothing is changed.", () -> {
-      SettlingJars x = Make.busy();
-      long before = x.digest();
-      x.why(0, 0, 0);
-      x.ifSettled(0, 100, 5);
-      x.clearIn(1, 12);
-      x.restIn(2);
-      x.purest(0, 3);
-      x.meanDepth(1);
-      Check.same("the digest", before, x.digest());
+      questionsChangeNothing("a new object", SettlingJars::new);
+      questionsChangeNothing("some grains", Make::busy);
+      questionsChangeNothing("full jars", Make::brimful);
+      questionsChangeNothing("looking ahead to no end", AnswersTest::endless);
+      Check.same("never clear in 300", NONE, endless().clearIn(0, 1));
+      Check.same("never at rest in 600", NONE, endless().restIn(1));
     });
+  }
+
+  private static SettlingJars endless() {
+    SettlingJars x = Make.slow();
+    Make.type(x, "7b@6+1c");
+    x.pour(0, 0, 2, 999);
+    x.pour(1, 10, 2, 999);
+    x.pour(2, 5, 1, 999);
+    return x;
+  }
+
+  /** The digest asks questions itself, so the buffer and the saved states are looked at before it. */
+  private static void questionsChangeNothing(String what, Make.Maker maker) {
+    Check.same("the length of the buffer with " + what, maker.make().clearBuffer(),
+        asked(maker).clearBuffer());
+    Check.same("the saved states with " + what, maker.make().count(5), asked(maker).count(5));
+    SettlingJars due = maker.make();
+    SettlingJars got = asked(maker);
+    for (int left = due.count(5); left > 0; left--) {
+      Check.same("left with " + what, due.undo(), got.undo());
+      Check.same("grains with " + what, due.count(1), got.count(1));
+    }
+    Check.holds("with " + what + " something is changed",
+        Arrays.equals(Make.trace(maker.make()), Make.trace(asked(maker))));
+  }
+
+  private static SettlingJars asked(Make.Maker maker) {
+    SettlingJars x = maker.make();
+    for (int jar = 0; jar < 3; jar++) {
+      for (int k = 0; k < 4; k++) {
+        x.why(jar, 3 * k + 2, k);
+        x.ifSettled(jar, 33 * k + 1, 2 * k);
+        x.clearIn(jar, 3 * k + 1);
+        x.purest(jar, k);
+      }
+      x.restIn(jar);
+      x.meanDepth(jar);
+    }
+    return x;
   }
 
   private static void noLimitAhead() {
@@ -392,6 +540,17 @@ public final class AnswersTest {
       Check.same("a single grain", 11, x.purest(0, 0));
       x.draw(0, 11, 100);
       Check.same("it is gone", NONE, x.purest(0, 0));
+    });
+    Check.sentence("Returns the sum of the numbers of the slices of all its grains", () -> {
+      SettlingJars x = new SettlingJars();
+      for (int slice = 0; slice < 12; slice++) {
+        x.pour(2, slice, slice % 4, 1);
+        Check.sameBits("one in each down to " + slice, slice / 2.0, x.meanDepth(2));
+      }
+      for (int grain = 0; grain < 4; grain++) {
+        x.pour(2, 3, grain, 1);
+      }
+      Check.sameBits("all classes alike", (66 + 12) / 16.0, x.meanDepth(2));
     });
     Check.sentence("as a double, divided by the number of its grains; 0.0 if it has none.",
         AnswersTest::depths);

@@ -2,6 +2,7 @@
 final class Check {
   private static int wrong = 0;
   private static String sentence = "";
+  private static String document = "";
 
   private Check() {
   }
@@ -14,6 +15,10 @@ final class Check {
   /** The test of one sentence of the document; what is wrong is told under the sentence's words. */
   static void sentence(String words, Call test) {
     sentence = "\"" + words + "\": ";
+    if (document.isEmpty()) {
+      document = Source.inOneLine(Source.document());
+    }
+    holds("the document has no such words", document.contains(words));
     try {
       test.run();
     } catch (RuntimeException e) {

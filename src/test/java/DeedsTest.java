@@ -12,6 +12,31 @@ public final class DeedsTest {
   }
 
   private static void settings() {
+    Check.sentence("Creates jars without grains, as told, with an empty buffer.", DeedsTest::isNew);
+    Check.sentence("Changes a setting. Undoable.", () -> {
+      for (int k = 0; k < 4; k++) {
+        SettlingJars x = new SettlingJars();
+        x.set(k, 12 - k);
+        for (int other = 0; other < 4; other++) {
+          int due = other == k ? 12 - k : new SettlingJars().setting(other);
+          Check.same("setting " + other + " behind a change of " + k, due, x.setting(other));
+        }
+        Check.same("saved states left", 0, x.undo());
+        Check.same("all is as it was", new SettlingJars().digest(), x.digest());
+      }
+    });
+    Check.sentence("Changes the speed of a class. Undoable.", () -> {
+      for (int k = 0; k < 4; k++) {
+        SettlingJars x = new SettlingJars();
+        x.setSpeed(k, 77);
+        for (int other = 0; other < 4; other++) {
+          int due = other == k ? 77 : new SettlingJars().grains(other, 3);
+          Check.same("speed " + other + " behind a change of " + k, due, x.grains(other, 3));
+        }
+        Check.same("saved states left", 0, x.undo());
+        Check.same("all is as it was", new SettlingJars().digest(), x.digest());
+      }
+    });
     Check.sentence("(Grains that are there stay, also if they are more than fit then.)", () -> {
       SettlingJars x = Make.fast();
       Make.fill(x, 0, 5000);
@@ -39,6 +64,21 @@ public final class DeedsTest {
       Check.same("the greatest", 100, x.setSpeed(3, 100));
       Check.same("of another class", 10, x.setSpeed(2, 11));
     });
+  }
+
+  /** Also where another object has been used before. */
+  private static void isNew() {
+    SettlingJars first = new SettlingJars();
+    long digest = first.digest();
+    SettlingJars used = Make.brimful();
+    SettlingJars x = new SettlingJars();
+    Check.same("the digest of a new one", digest, x.digest());
+    Check.same("the digest of one made before", digest, first.digest());
+    Check.same("grains", 0, x.count(1));
+    Check.same("steps", 0, x.count(0));
+    Check.same("saved states", 0, x.count(5));
+    Check.same("the length of the buffer", 0, x.clearBuffer());
+    Check.same("the used one stays as it is", 15000, used.count(1));
   }
 
   private static void pouring() {

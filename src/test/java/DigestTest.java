@@ -2,10 +2,6 @@ import java.math.BigInteger;
 
 /** The digest, promise 26, from the other answers, as the document lists them. */
 public final class DigestTest {
-  private interface Maker {
-    SettlingJars make();
-  }
-
   public static void main(String[] args) {
     Check.sentence("The hash starts at 2207. For each value v of the following list, in order, the "
         + "hash becomes 31 * hash + v, in long arithmetic with overflow.", () -> {
@@ -13,6 +9,14 @@ public final class DigestTest {
       isHash("some grains", Make::busy, "7b@6+1c");
       isHash("full jars", Make::brimful,
           "999a+999b+999c+999d+999a@1+999b@1+999c@1+999d@10+999a@1+1b@1");
+    });
+    Check.sentence("the settings 0 to 3; for each class its accounts 0 to 3; for each jar its "
+        + "properties 0 to 9, for each of its slices its properties 0 to 9, purest of the classes 0 "
+        + "to 3, clearIn of 3 slices, restIn, and the bits of meanDepth", () -> {
+      for (int k = 0; k < 24; k++) {
+        int changes = k;
+        isHash("changed by " + k, () -> changed(changes), "7b@6+1c");
+      }
     });
     Check.sentence("the bits of meanDepth (as Double.doubleToLongBits)", () -> {
       for (int many = 1; many <= 5000; many = many * 3 / 2 + 1) {
@@ -43,6 +47,19 @@ public final class DigestTest {
     Check.end("DigestTest");
   }
 
+  /** Busy jars with so many changes of all kinds, so that no two of the values stay alike. */
+  private static SettlingJars changed(int changes) {
+    SettlingJars x = Make.busy();
+    for (int k = 0; k < changes; k++) {
+      x.set(k % 4, 10 * (k % 4 == 1 ? k + 5 : 0) + k % 7);
+      x.setSpeed(k % 4, 3 * k + 1);
+      x.pour(k % 3, k % 12, (k + 1) % 4, 20 + 9 * k);
+      x.draw((k + 1) % 3, k % 12, 1 + 4 * k);
+      x.settle(1 + k % 2);
+    }
+    return x;
+  }
+
   /** Grains at the bottom, but for one. */
   private static SettlingJars deep(int many) {
     SettlingJars x = new SettlingJars();
@@ -56,12 +73,12 @@ public final class DigestTest {
     return x;
   }
 
-  private static void isHash(String what, Maker maker, String buffer) {
+  private static void isHash(String what, Make.Maker maker, String buffer) {
     Check.same(what, hash(maker, buffer), maker.make().digest());
   }
 
   /** In great numbers, that do not overflow; each part from an object that is not yet used up. */
-  private static long hash(Maker maker, String buffer) {
+  static long hash(Make.Maker maker, String buffer) {
     BigInteger[] hash = {BigInteger.valueOf(2207)};
     addNumbers(hash, maker.make());
     for (int jar = 0; jar < 3; jar++) {

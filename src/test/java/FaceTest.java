@@ -7,38 +7,6 @@ import java.util.TreeSet;
 
 /** The face is the document's, with its throws clauses, and nothing else is to be seen. */
 public final class FaceTest {
-  private static final String I = "IndexOutOfBoundsException ";
-  private static final String A = "IllegalArgumentException ";
-  private static final String S = "IllegalStateException ";
-
-  private static final String[] METHODS = {
-    "int set(int int) " + I + A,
-    "int setSpeed(int int) " + I + A,
-    "int pour(int int int int) " + I + A + S,
-    "int stir(int int int) " + I + A,
-    "int draw(int int int) " + I + A,
-    "int decant(int int int) " + I + A + S,
-    "int turn(int) " + I,
-    "int settle(int) " + A + S,
-    "int append(int) " + A + S,
-    "int clearBuffer() ",
-    "int firstError() ",
-    "int load(int) " + I + A + S,
-    "int undo() " + S,
-    "int slice(int int int) " + I + A,
-    "int jar(int int) " + I + A,
-    "int grains(int int) " + I + A,
-    "int count(int) " + A,
-    "int setting(int) " + I,
-    "int why(int int int) " + I,
-    "int ifSettled(int int int) " + I + A,
-    "int clearIn(int int) " + I + A,
-    "int restIn(int) " + I,
-    "int purest(int int) " + I,
-    "double meanDepth(int) " + I,
-    "long digest() ",
-  };
-
   public static void main(String[] args) {
     Class<?> face = SettlingJars.class;
     Check.holds("the class is public and final",
@@ -50,7 +18,7 @@ public final class FaceTest {
   }
 
   private static void methodsAreTheDocuments(Class<?> face) {
-    Set<String> due = new TreeSet<>(Set.of(METHODS));
+    Set<String> due = methodsOfTheDocument();
     Set<String> found = new TreeSet<>();
     Set<String> publicNames = new TreeSet<>();
     for (Method method : face.getDeclaredMethods()) {
@@ -64,6 +32,18 @@ public final class FaceTest {
       Check.holds("the private method " + method.getName() + " bears a public name",
           !Modifier.isPrivate(method.getModifiers()) || !publicNames.contains(method.getName()));
     }
+  }
+
+  /** As {@link #written} tells a method: the types, the name, and what is thrown, in its order. */
+  private static Set<String> methodsOfTheDocument() {
+    Set<String> methods = new TreeSet<>();
+    String face = Source.found("(?s)```java\n(.*?)```", Source.document()).get(0);
+    for (String line : Source.found("public ((?:int|long|double) \\w+\\(.*);", face)) {
+      methods.add(line.replaceAll("(int) \\w+(?=[,)])", "$1").replaceAll(" throws", "")
+          .replaceAll(",", "") + " ");
+    }
+    Check.same("methods in the document", 25, methods.size());
+    return methods;
   }
 
   private static String written(Method method) {

@@ -3,6 +3,11 @@ final class Make {
   private Make() {
   }
 
+  /** Makes the same object each time. */
+  interface Maker {
+    SettlingJars make();
+  }
+
   /** Grains of all classes fall as fast as there is room: a step takes all that fit. */
   static SettlingJars fast() {
     SettlingJars x = new SettlingJars();
@@ -71,6 +76,13 @@ final class Make {
     SettlingJars x = new SettlingJars();
     type(x, text);
     return x;
+  }
+
+  /** Each undoable call, as it goes with what busy has; a step is the last but one. */
+  static Check.Call[] deeds(SettlingJars x) {
+    return new Check.Call[] {() -> x.set(0, 7), () -> x.setSpeed(1, 99), () -> x.pour(0, 1, 2, 3),
+        () -> x.stir(0, 0, 11), () -> x.draw(1, 10, 50), () -> x.decant(1, 0, 5), () -> x.turn(1),
+        () -> x.settle(2), () -> x.load(2)};
   }
 
   /** All that can be seen of an object, its saved states too; the object is used up by this. */

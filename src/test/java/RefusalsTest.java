@@ -1,6 +1,8 @@
 import java.util.ArrayList;
 import java.util.Arrays;
 import java.util.List;
+import java.util.Set;
+import java.util.TreeSet;
 
 /**
  * Every argument of every method at both ends of its range and outside of it, and every state in
@@ -25,10 +27,6 @@ public final class RefusalsTest {
 
   private interface Call {
     void on(SettlingJars x, int[] a);
-  }
-
-  private interface Maker {
-    SettlingJars make();
   }
 
   /** A method with ranges that do not depend on one another, and arguments that it takes. */
@@ -78,19 +76,37 @@ public final class RefusalsTest {
     return new Range(least, most, ARGUMENT);
   }
 
+  /** The number of a promise and an exception that was due in a call of its method. */
+  private static final Set<String> TRIED = new TreeSet<>();
+
   public static void main(String[] args) {
-    for (Method method : METHODS) {
-      for (int k = 0; k < method.ranges().length; k++) {
-        takesTheEnds(method, k);
+    Check.sentence("A call that throws an exception changes nothing.", () -> {
+      for (Method method : METHODS) {
+        for (int k = 0; k < method.ranges().length; k++) {
+          takesTheEnds(method, k);
+        }
+        refusesAllOutside(method, RefusalsTest::fresh);
+        refusesAllOutside(method, Make::busy);
+        refusesAllOutside(method, Make::brimful);
       }
-      refusesAllOutside(method, RefusalsTest::fresh);
-      refusesAllOutside(method, Make::busy);
-      refusesAllOutside(method, Make::brimful);
-    }
-    refusesWhatDoesNotGoTogether();
-    refusesInAState();
-    refusesTheFirstOfSeveral();
+      refusesWhatDoesNotGoTogether();
+      refusesInAState();
+    });
+    Check.sentence("If several exceptions apply, the one that is named first in the throws clause "
+        + "is thrown.", RefusalsTest::refusesTheFirstOfSeveral);
+    triesWhatTheDocumentNames();
     Check.end("RefusalsTest");
+  }
+
+  /** Each "Throws" of a promise has a call above in which it was due. */
+  private static void triesWhatTheDocumentNames() {
+    Set<String> named = new TreeSet<>();
+    for (String promise : Source.document().split("\n## Promise ")) {
+      for (String thrown : Source.found("\nThrows `(\\w+)`", promise)) {
+        named.add(promise.substring(0, promise.indexOf(':')) + ": " + thrown);
+      }
+    }
+    Check.holds("tried are " + TRIED + ", the document names " + named, TRIED.equals(named));
   }
 
   private static SettlingJars fresh() {
@@ -107,7 +123,7 @@ public final class RefusalsTest {
   }
 
   /** Any choice of the arguments may be outside: the exception that is named first comes. */
-  private static void refusesAllOutside(Method method, Maker maker) {
+  private static void refusesAllOutside(Method method, Make.Maker maker) {
     List<int[]> choices = new ArrayList<>();
     addChoices(method, 0, method.usual().clone(), choices);
     long[] before = Make.trace(maker.make());
@@ -151,13 +167,14 @@ public final class RefusalsTest {
 
   private static void refusesAndKeeps(String what, SettlingJars x, Class<?> due, long[] before,
       Check.Call call) {
+    TRIED.add(what.substring(0, what.indexOf(':')) + ": " + due.getSimpleName());
     Check.throwsJust(what, due, call);
     long[] after = Make.trace(x);
     Check.holds(what + " leaves " + Arrays.toString(after) + ", due is " + Arrays.toString(before),
         Arrays.equals(before, after));
   }
 
-  private static void refuses(String what, Class<?> due, Maker maker, Call call) {
+  private static void refuses(String what, Class<?> due, Make.Maker maker, Call call) {
     SettlingJars x = maker.make();
     refusesAndKeeps(what, x, due, Make.trace(maker.make()), () -> call.on(x, null));
   }

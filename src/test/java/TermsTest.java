@@ -15,9 +15,13 @@ public final class TermsTest {
     Check.sentence("`NONE = -1`", () -> Check.same("NONE", -1, NONE));
     Check.sentence("divisions are truncated toward 0.", TermsTest::truncated);
     Check.sentence("There are 3 jars, numbered from 0.", TermsTest::threeJars);
+    Check.sentence("There are 4 classes of grains, numbered from 0", TermsTest::fourClasses);
     Check.sentence("a class has a speed, 1 to 100, at first 40, 20, 10 and 5.", TermsTest::speeds);
     Check.sentence("Each jar has 12 slices, numbered from 0 at the top to 11 at the bottom.",
         TermsTest::twelveSlices);
+    Check.sentence("A slice holds a number of grains of each class, and its height has no other "
+        + "meaning.", TermsTest::noOtherMeaning);
+    Check.sentence("All jars are full of water", TermsTest::fullOfWater);
     Check.sentence("at first there are no grains in them.", TermsTest::noGrainsAtFirst);
     Check.sentence("An object is used for at most 512 calls after it has been made",
         TermsTest::manyCalls);
@@ -112,6 +116,20 @@ public final class TermsTest {
     Check.refusesIndex("jar 3", x, () -> x.jar(3, 0));
   }
 
+  private static void fourClasses() {
+    SettlingJars x = new SettlingJars();
+    for (int grain = 0; grain < 4; grain++) {
+      x.pour(0, 3, grain, grain + 1);
+    }
+    for (int grain = 0; grain < 4; grain++) {
+      Check.same("in the slice", grain + 1, x.slice(0, 3, grain));
+      Check.same("poured", grain + 1, x.grains(grain, 0));
+    }
+    Check.same("all of them", 10, x.slice(0, 3, 4));
+    Check.refusesIndex("class -1", x, () -> x.pour(0, 3, -1, 1));
+    Check.refusesIndex("class 4", x, () -> x.pour(0, 3, 4, 1));
+  }
+
   private static void speeds() {
     SettlingJars x = new SettlingJars();
     int[] first = {40, 20, 10, 5};
@@ -142,6 +160,34 @@ public final class TermsTest {
     y.pour(0, 0, 0, 1);
     Check.same("falls from the top to the bottom", 11, y.settle(11));
     Check.same("the bottom", 1, y.slice(0, 11, 0));
+  }
+
+  /** The same grains answer alike in each slice, and fall alike but from the bottom. */
+  private static void noOtherMeaning() {
+    int[] due = {0, 60, 0, 140, 200, 1, 0, 3, 333, 0};
+    for (int slice = 0; slice < 12; slice++) {
+      SettlingJars x = new SettlingJars();
+      x.pour(0, slice, 1, 60);
+      x.pour(0, slice, 3, 140);
+      for (int what = 0; what < 10; what++) {
+        Check.same("property " + what + " of slice " + slice, due[what], x.slice(0, slice, what));
+      }
+      Check.same("a step from slice " + slice, slice == 11 ? 0 : 3 + 2, x.settle(1));
+      Check.same("drawn off slice " + slice, slice == 11 ? 30 + 70 : 28 + 69, x.draw(0, slice, 50));
+    }
+  }
+
+  /** No water goes with the grains. */
+  private static void fullOfWater() {
+    SettlingJars x = Make.fast();
+    x.pour(0, 0, 0, 100);
+    x.decant(0, 1, 11);
+    x.draw(1, 0, 100);
+    for (int jar = 0; jar < 3; jar++) {
+      Check.same("clear water of jar " + jar, 12, x.jar(jar, 6));
+      x.pour(jar, 0, 2, 10);
+    }
+    Check.same("grains fall in each", 30, x.settle(1));
   }
 
   private static void noGrainsAtFirst() {
@@ -421,6 +467,10 @@ public final class TermsTest {
       SettlingJars x = new SettlingJars();
       x.set(1, packing);
       Check.same("an empty slice", 0, x.slice(1, 6, 5));
+      x.pour(1, 5, 0, packing - 1);
+      x.pour(1, 7, 0, packing - 1);
+      x.pour(1, 5, 1, 1);
+      Check.same("an empty slice below a packed one", 0, x.slice(1, 6, 5));
       x.pour(1, 6, 0, packing - 3);
       x.pour(1, 6, 3, 2);
       Check.same("one less than " + packing, 0, x.slice(1, 6, 5));

@@ -9,6 +9,31 @@ public final class TextsTest {
   }
 
   private static void buffer() {
+    Check.sentence("The buffer is read from left to right", () -> {
+      Check.same("12", 12, loaded("12a"));
+      Check.same("21", 21, loaded("21a"));
+      Check.same("an error in front of a charge", 0, Make.typed("x7a").firstError());
+      Check.same("an error behind one", 2, Make.typed("7ax").firstError());
+      Check.same("a charge from the right", 0, Make.typed("a7").firstError());
+      SettlingJars x = Make.typed("1a@10+23b@9");
+      x.load(0);
+      Check.same("the first portion", 1, x.slice(0, 10, 0));
+      Check.same("the second one", 23, x.slice(0, 9, 1));
+    });
+    Check.sentence("Appends a character to the buffer.", () -> {
+      for (char code = 33; code <= 126; code++) {
+        SettlingJars x = new SettlingJars();
+        x.append(code);
+        Check.same("the hash of " + code, DigestTest.hash(SettlingJars::new, "" + code), x.digest());
+      }
+    });
+    Check.sentence("Clears the buffer.", () -> {
+      SettlingJars x = Make.typed("7a@7!");
+      x.clearBuffer();
+      Check.same("all is as it was at first", new SettlingJars().digest(), x.digest());
+      Make.type(x, "8b");
+      Check.same("what is typed then is all", 8, x.load(0));
+    });
     Check.sentence("The buffer has at most 60 characters.", TextsTest::sixtyCharacters);
     Check.sentence("`code`: the character code, 33 to 126", TextsTest::codes);
     Check.sentence("Returns the new length of the buffer.", () -> {
@@ -286,20 +311,13 @@ public final class TextsTest {
     Check.refusesState("very many", z, () -> z.load(0));
   }
 
-  /** Each undoable call, on an object with grains. */
-  private static Check.Call[] deeds(SettlingJars x) {
-    return new Check.Call[] {() -> x.set(0, 7), () -> x.setSpeed(1, 99), () -> x.pour(0, 1, 2, 3),
-        () -> x.stir(0, 0, 11), () -> x.draw(1, 10, 50), () -> x.decant(1, 0, 5), () -> x.turn(1),
-        () -> x.settle(2), () -> x.load(2)};
-  }
-
   private static void eachSaves() {
-    int many = deeds(new SettlingJars()).length;
+    int many = Make.deeds(new SettlingJars()).length;
     for (int k = 0; k < many; k++) {
       SettlingJars x = Make.busy();
       x.undo();
       long before = x.digest();
-      deeds(x)[k].run();
+      Make.deeds(x)[k].run();
       Check.same("call " + k + " saves one", 6, x.count(5));
       Check.holds("call " + k + " changes something", x.digest() != before);
       x.undo();
@@ -372,6 +390,25 @@ public final class TextsTest {
     y.undo();
     Check.same("the number of saved states is none of them", 2, y.count(5));
     bringsAllBack();
+    bringsAccountsBack();
+  }
+
+  private static void bringsAccountsBack() {
+    for (int grain = 0; grain < 4; grain++) {
+      SettlingJars x = new SettlingJars();
+      x.pour(0, 0, grain, 50);
+      x.draw(0, 0, 10);
+      x.pour(1, 0, grain, 7);
+      x.undo();
+      Check.same("poured of class " + grain, 50, x.grains(grain, 0));
+      x.draw(0, 0, 100);
+      x.undo();
+      Check.same("drawn off of class " + grain, 5, x.grains(grain, 1));
+      x.undo();
+      Check.same("not drawn off of class " + grain, 0, x.grains(grain, 1));
+      x.undo();
+      Check.same("not poured of class " + grain, 0, x.grains(grain, 0));
+    }
   }
 
   private static void bringsAllBack() {
